@@ -30,6 +30,7 @@ public final class PromiseTests {
         piersAreTurned();
         ironIsBought();
         actsAreUndone();
+        actsOfEachPier();
         actsAreForgotten();
         piersAreTold();
         spansAreForetold();
@@ -139,6 +140,8 @@ public final class PromiseTests {
         due("SIZE", x.row(7, 0, -1), SIZE);
         due("SIZE", x.row(7, 0, LEAST), SIZE);
         due("what is found changes nothing", x.set(7, 39, 70000), 70000);
+        x.set(7, 0, 5);
+        x.set(7, 1, 5);
         due("in place", x.row(7, 1, 2), 2);
         due("its end", x.set(7, 2, 1), PLACE);
         due("anew 0", sumSeen(x, 7, 2), 0);
@@ -274,6 +277,9 @@ public final class PromiseTests {
         due("gale", x.count(3), 3);
         due("iron", x.count(5), 4);
         due("the least", read(x, "l0,0,1,0,0;i0,0,0;"), 1);
+        due("what was on the tape is gone", read(x, "l0"), -1000102);
+        read(x, FIVE);
+        due("what was on the tape is gone", read(x, "l3,4,17,2,6"), -1000111);
         allStaysByAFault();
     }
 
@@ -526,6 +532,21 @@ public final class PromiseTests {
         due("a new coast", x.undo(), STATE);
     }
 
+    private static void actsOfEachPier() {
+        PierYears x = with(FIVE);
+        for (int p = 0; p < 5; p++) {
+            int lean = x.pier(p, 1);
+            int spans = x.pier(p, 2);
+            x.turn(p, (lean + 1) % 3);
+            x.build(p);
+            due("built is undone", x.undo(), 1);
+            due("turned yet", x.pier(p, 1), (lean + 1) % 3);
+            due("spans", x.pier(p, 2), spans);
+            due("turned is undone", x.undo(), 0);
+            due("lean", x.pier(p, 1), lean);
+        }
+    }
+
     private static void actsAreForgotten() {
         PierYears x = with(CALM);
         x.build(0);
@@ -646,13 +667,15 @@ public final class PromiseTests {
         promise = 18;
         PierYears x = new PierYears();
         due("no coast", x.aim(0, 0, 1, 0), BAD);
-        read(x, "l1,1,9,0,6;i2,1,4;i2,1,5;");
+        read(x, "l1,1,9,0,6;i2,1,4;i2,1,5;w7,1,0;");
         due("down", x.aim(0, 5, 7, 0), 0);
         due("how many", x.aim(0, 5, 7, 1), 3);
         due("straight", x.aim(0, 2, 7, 0), 1);
         due("up", x.aim(0, 9, 7, 0), 2);
         due("by none", x.aim(0, 3, 7, 0), NONE);
         due("by none", x.aim(0, 3, 7, 1), NONE);
+        due("by none, two places up", x.aim(0, 6, 7, 0), NONE);
+        due("one out", x.aim(2, 6, 1, 1), 1);
         due("of several the least", x.aim(0, 7, 5, 0), 0);
         due("of three the least", x.aim(0, 2, 10, 0), 0);
         due("all the iron", x.aim(0, 2, 10, 1), 6);
@@ -669,7 +692,7 @@ public final class PromiseTests {
         due("out 20", x.aim(0, 1, 20, 0), NONE);
         due("what 2", x.aim(0, 1, 1, 2), BAD);
         due("what -1", x.aim(0, 1, 1, -1), BAD);
-        due("pier 2", x.aim(2, 1, 1, 0), BAD);
+        due("pier 3", x.aim(3, 1, 1, 0), BAD);
         due("nothing changes", x.count(5), 6);
         PierYears rich = with(CALM);
         pass(rich, 24);
@@ -770,6 +793,12 @@ public final class PromiseTests {
         read(x, "l1,0,30,0,0;i8,2,1;");
         due("worse than as it is", x.turning(1, 2), 8);
         due("straight", x.turning(1, 1), 1);
+        read(x, "l1,0,30,0,0;i8,1,1;");
+        due("up", x.turning(1, 1), 2);
+        due("up: how much", x.turning(1, 2), 9);
+        read(x, "l1,0,30,0,0;w1,1,0;i0,1,1;w1,1,0;i0,1,1;");
+        due("of several the first", x.turning(1, 0), 1);
+        due("round about", x.turning(1, 1), 0);
         read(x, "l1,1,30,0,0;");
         for (int what = 0; what < 3; what++) {
             due("no piers", x.turning(1, what), NONE);
@@ -793,6 +822,7 @@ public final class PromiseTests {
         read(x, "l1,1,9,0,3;i0,2,9;i1,1,0;i1,1,9;");
         due("where they begin is not out", x.cross(1), 2);
         due("one out", x.cross(2), 1);
+        due("one out counts", x.cross(0), 1);
         read(x, "l1,1,9,0,3;i1,1,9;i1,2,9;");
         due("only where they begin", x.cross(0), 0);
         due("NONE", x.cross(1), NONE);
@@ -826,6 +856,12 @@ public final class PromiseTests {
         due("long by three", x.fits(0, 0, 3, 3, 3), 1 << 2);
         due("the other: froms", x.fits(1, 0, 3, 3, 0), 2);
         due("the other: long", x.fits(1, 0, 3, 3, 3), (1 << 30) - (1 << 3));
+        due("froms at the least", x.fits(1, 0, 4, 1, 0), 1);
+        x.set(0, 6, 15);
+        due("froms at the most", x.fits(1, 0, 6, 1, 0), 1 << 9);
+        due("leans at the least", x.fits(0, 0, 7, 1, 1), 0);
+        x.set(0, 7, 3);
+        due("leans at the least", x.fits(0, 0, 7, 1, 1), 1);
         due("16", x.fits(0, 0, 4, 16, 0), 0);
         due("17", x.fits(0, 0, 0, 17, 0), BAD);
         due("0", x.fits(0, 0, 0, 0, 0), BAD);
@@ -905,6 +941,12 @@ public final class PromiseTests {
         due("nothing changes", x.count(5), 1);
         due("nothing changes", x.count(8), 18);
         due("gone", x.drawn(60, 999999, 1), 0);
+        read(x, FIVE);
+        due("3", x.drawn(3, 999999, 0), 107);
+        due("10", x.drawn(10, 999999, 0), 167);
+        due("20", x.drawn(20, 123456, 0), 447);
+        due("20: spans", x.drawn(20, 123456, 1), 1);
+        due("60", x.drawn(60, 31337, 0), 635);
         read(x, "l0,1,30,0,1;r0,1,9;");
         due("a rusty one, even", x.drawn(1, 1, 1), 6);
         x.seasons(1);
@@ -961,8 +1003,10 @@ public final class PromiseTests {
         due("lean", x.pier(1, 1), 0);
         due("from", x.pier(1, 0), 7);
         due("kind", x.kind(2), 3);
+        due("law, storms yet", x.purse(1), 68);
         x.build(0);
         due("again", x.restore(1), 1);
+        due("no act again", x.undo(), STATE);
         due("the image stays as it was", x.pier(0, 2), 3);
         x.row(0, 0, 1);
         x.restore(1);
