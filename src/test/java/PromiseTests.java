@@ -796,6 +796,8 @@ public final class PromiseTests {
         read(x, "l1,0,30,0,0;i8,1,1;");
         due("up", x.turning(1, 1), 2);
         due("up: how much", x.turning(1, 2), 9);
+        read(x, "l1,0,30,0,0;i7,1,1;");
+        due("no farther up than one place", x.turning(1, 2), 8);
         read(x, "l1,0,30,0,0;w1,1,0;i0,1,1;w1,1,0;i0,1,1;");
         due("of several the first", x.turning(1, 0), 1);
         due("round about", x.turning(1, 1), 0);
