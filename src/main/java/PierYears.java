@@ -816,7 +816,7 @@ public final class PierYears {
         }
 
         private boolean readPiers(Coast coast) {
-            for (int pier = 0; at < length; pier++) {
+            for (int pier = 0; pier <= Coast.MOST_PIERS && at < length; pier++) {
                 int kind = kindOfLetter(byteHere());
                 if (kind == 0) {
                     return fail(CANNOT_STAND);

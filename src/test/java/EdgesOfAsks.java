@@ -110,8 +110,9 @@ public final class EdgesOfAsks {
     }
 
     static void promise30_askedAnewOfTheSamePier() {
-        Edge.says("SIZE, MARK within others are asked of the same PIER anew");
-        // three of each KIND in other places: the number and FROM are their own
+        Edge.says("Of an ask the BODY told for the KIND begins, else that of the nearest KIND that it is, too, else the one that is lent; "
+            + "SIZE, MARK within others are asked of the same PIER anew");
+        // the KINDS in other places than in FIVE: the number and FROM are their own
         Told x = Edge.with("l0,0,1,0,0;p9,1,1;c8,1,2;r7,1,3;w6,1,4;i5,1,5;");
         dueAsk(x, 0, 1, 0 - 2 * (9 - 100), 23, 20, 14, 13, 10);
         dueAsk(x, 1, 0, -(8 + 2 * (1 + 2)), 12, 11, 10, 24, 21, 20);

@@ -313,7 +313,7 @@ public final class EdgesOfFitsAndDraws {
     // ---- drawn
 
     static void promise25_nIs0To60() {
-        Edge.says("DECADES of n SEASONS (0 to 60) by a SEED (X at first)");
+        Edge.says("DECADES of n SEASONS (0 to 60) by a SEED (X at first): ahead of each X becomes the rest of (X times 16807) by 2147483647");
         Told x = Edge.with("l0,1,30,0,0;p0,1,9;");
         x.due(x.drawn(0, 1, 0), 0);
         x.due(x.drawn(0, 1, 1), 9);

@@ -209,7 +209,7 @@ public final class EdgesOfForetold {
     }
 
     static void promise18_leanOrHowMany() {
-        Edge.says("AIM: LEAN (what = 0), how many (1); NONE.");
+        Edge.says("AIM: LEAN (what = 0), how many (1); NONE.", "how many spans are to be built for that");
         Told x = Edge.with("l0,0,1,0,9;i2,0,3;");
         x.due(x.aim(0, 9, 7, 0), 2);
         x.due(x.aim(0, 9, 7, 1), 4);
@@ -451,6 +451,21 @@ public final class EdgesOfForetold {
         dueGiven(x, 60, 9999, 0, 0, 0, 0, 0);
     }
 
+    static void promise20_behindAnotherCoast() {
+        Edge.says("GIVE for d: spans built now", "A COAST that is read stands in place of the one before");
+        Told x = Edge.with(Edge.RICH);
+        for (int piers = 4; piers >= 0; piers--) {
+            x.give(60, 0);
+            x.read("l0,1,30,0,9;" + "i0,1,1;".repeat(piers));
+            int[] shares = new int[piers];
+            if (piers > 0) {
+                shares[piers - 1] = 9;
+            }
+            dueGiven(x, 2, piers == 0 ? 0 : 2 * (piers + 9), shares);
+            x.read(Edge.RICH);
+        }
+    }
+
     static void promise20_stormsAreForetold() {
         Edge.says("by which PURSE is most behind d SEASONS");
         // the STORM of 4 takes 4 of iron, 1 of one on piles
@@ -462,7 +477,7 @@ public final class EdgesOfForetold {
     // ---- turning
 
     static void promise21_whatIs0To2() {
-        Edge.says("TURN: which (what = 0), LEAN (1), how much (2); NONE.");
+        Edge.says("TURN: which (what = 0), LEAN (1), how much (2); NONE.", "which; how it LEANS; how much");
         Told x = Edge.with(Edge.FIVE);
         x.due(x.turning(1, 0), 3);
         x.due(x.turning(1, 1), 0);
@@ -611,7 +626,7 @@ public final class EdgesOfForetold {
     }
 
     static void promise22_roundAbout() {
-        Edge.says("round about (0 beside 9)");
+        Edge.says("round about (0 beside 9)", "pairs of PIERS that are at one PLACE as far OUT as one another");
         dueCrossing("i9,2,1;i0,1,1;", 1, 1, 1);
         dueCrossing("i0,0,1;i9,1,1;", 1, 1, 1);
         dueCrossing("i1,0,2;i7,2,2;", 1, 1, 2);

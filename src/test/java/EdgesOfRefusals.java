@@ -150,14 +150,11 @@ public final class EdgesOfRefusals {
     private static void dueAlike(String call, Told one, Told twin, boolean withStatus) {
         List<String> changed = lookAtAll(one, withStatus);
         List<String> unchanged = lookAtAll(twin, withStatus);
-        Edge.check(changed.size() == unchanged.size(), "behind " + call + " more or less is seen than on the twin");
         for (int k = 0; k < Math.min(changed.size(), unchanged.size()); k++) {
             boolean isAlike = changed.get(k).equals(unchanged.get(k));
             Edge.check(isAlike, "behind " + call + " " + changed.get(k) + ", on the twin " + unchanged.get(k));
-            if (!isAlike) {
-                return;
-            }
         }
+        Edge.check(changed.size() == unchanged.size(), "behind " + call + " more or less is seen than on the twin");
     }
 
     /** The call is refused, and nothing has changed; what is found tells its number in status(). */
@@ -175,7 +172,7 @@ public final class EdgesOfRefusals {
         }
     }
 
-    /** Calls that only look, one behind the other on one object. */
+    /** Calls that only look, each on an object of its own. */
     private static void changesNothing(boolean withStatus, Call... calls) {
         for (Call call : calls) {
             Told x = withAll();

@@ -464,7 +464,7 @@ public final class EdgesOfRows {
     }
 
     static void promise04_badThenNullThenStoreThenPlace() {
-        Edge.says("BAD: ROWS; NULL; STORE; PLACE (i, j, n below 0, or beyond an end).");
+        Edge.says("BAD: ROWS; NULL; STORE; PLACE (i, j, n below 0, or beyond an end).", "then FINDINGS, of several the first in time");
         Told x = new Told();
         x.row(0, 0, 2);
         x.row(1, 1, 2);

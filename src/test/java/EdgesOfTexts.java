@@ -402,6 +402,21 @@ public final class EdgesOfTexts {
         x.due(x.undo(), Edge.STATE);
     }
 
+    static void promise07_behindWhatWasForetold() {
+        Edge.says("SEASON 0, PURSE 0; no ACT can be undone", "FORETOLD (nothing changes)");
+        Told x = Edge.with(Edge.FIVE);
+        x.drawn(60, 2, 0);
+        x.due(x.read(LAW + "w5,2,8;"), 1);
+        x.due(x.count(2), 0);
+        x.due(x.count(4), 0);
+        x.due(x.count(5), 6);
+        x.purse(60);
+        x.due(x.read("l0,0,1,0,0;"), 0);
+        x.due(x.count(2), 0);
+        x.due(x.count(4), 0);
+        x.due(x.count(8), 0);
+    }
+
     static void promise07_allStaysByAFault() {
         Edge.says("-1000100 less the place of a FAULT: all stays.");
         Told x = Edge.with(Edge.FIVE);
