@@ -979,7 +979,8 @@ public final class PierYears {
         }
 
         static int placeFrom(int from, int lean, int far) {
-            return Math.floorMod(from + (lean - 1) * far, PLACES);
+            // one place down is as good as nine up, so that nothing below 0 is divided
+            return (from + (lean + PLACES - 1) * far) % PLACES;
         }
 
         int endOf(int pier) {

@@ -77,27 +77,35 @@ final class Edge {
         }
     }
 
-    /** The sentences that a test stands for must be the document's own: of the Terms, or of the promise it is named by. */
+    /** The sentences that a test stands for must be the document's own: ahead of all promises, or of the one it is named by. */
     static void says(String... sentences) {
         String document = document();
         int number = Integer.parseInt(test.substring("promise".length(), "promise".length() + 2));
-        String terms = part(document, "## Terms", "## Promise 1:");
+        String ahead = part(document, "## What it is", "## Promise 1:");
         String promise = part(document, "## Promise " + number + ":", "## ");
         for (String sentence : sentences) {
-            check((terms + promise).contains(sentence), "the document does not say: " + sentence);
+            check((ahead + promise).contains(sentence), "the document does not say: " + sentence);
         }
     }
 
-    private static String document() {
+    static String document() {
+        return textOf("../shared/DOC.md");
+    }
+
+    static String source() {
+        return textOf("src/main/java/PierYears.java");
+    }
+
+    private static String textOf(String path) {
         try {
-            return Files.readString(Path.of("../shared/DOC.md"));
+            return Files.readString(Path.of(path));
         } catch (IOException e) {
-            check(false, "the document cannot be read: " + e);
+            check(false, path + " cannot be read: " + e);
             return "";
         }
     }
 
-    private static String part(String document, String from, String to) {
+    static String part(String document, String from, String to) {
         int start = document.indexOf(from);
         if (start < 0) {
             return "";

@@ -10,6 +10,10 @@ final class Told {
         return latest;
     }
 
+    int calls() {
+        return calls;
+    }
+
     void due(int got, int want) {
         Edge.check(got == want, latest + " answered " + got + ", due is " + want);
     }
